@@ -449,16 +449,15 @@ public final class GlobeWorks {
         }
         Name name = gore.names.get(depth);
         for (int way = 0; way <= LEFT_OUT; way++) {
-            if (name.allows(way) && isClear(gore, search, depth, way)) {
+            if (name.allows(way) && isClear(name, way, gore, search, depth)) {
                 search.trial[depth] = way;
                 tryWays(gore, search, depth + 1, costSoFar + name.costOf(way));
             }
         }
     }
 
-    private static boolean isClear(Gore gore, Search search, int depth, int way) {
-        Name name = gore.names.get(depth);
-        for (int k = 0; k < depth; k++) {
+    private static boolean isClear(Name name, int way, Gore gore, Search search, int depth) {
+        for (int k = 0; k < depth && k < gore.names.size(); k++) {
             if (name.covers(way, gore.names.get(k), search.trial[k])) {
                 return false;
             }

@@ -14,6 +14,7 @@ public final class NamesTest {
         settingOfNamesApart();
         touchingIsNoOverlap();
         cheapestIsToLeaveOut();
+        dearestSetting();
         likeCostsTakeLeastWays();
         namesOfOtherGoresDoNotMatter();
         settingFollowsTheNames();
@@ -175,6 +176,11 @@ public final class NamesTest {
         dueMay(works, 2, "01011");
         works.name(54, 0, 8, 9);
         dueMay(works, 3, "11111");
+        // side -58 at -56 degrees: x -972; 80 lower NARROW is 540, and the edge just as far
+        works.name(1, -56, 1, 9);
+        Check.due("x", works.across(-58, -3360), -972);
+        Check.due("edge", works.across(-60, -3440), -972);
+        dueMay(works, 4, "10101");
         GlobeWorks flat = new GlobeWorks(18);
         // at 60 degrees: edge 20 * 30 * 500 by 1000 is 300, side 0 is at 0;
         // at 3680 NARROW is 479: 287; at 3520 it is 520: 312
@@ -267,6 +273,15 @@ public final class NamesTest {
         // prices 1 .. 6: leaving out 1, 2 and 3 costs 6, then 0 + 1 + 2
         Check.due("cost", works.cost(0), 9);
         dueSet(works, 0, 4, 4, 0, 1, 2, 3);
+    }
+
+    private static void dearestSetting() {
+        GlobeWorks works = new GlobeWorks(6);
+        for (int k = 0; k < 6; k++) {
+            works.name(30, 90, 20, 99);
+        }
+        dueSet(works, 0, 4, 4, 4, 4, 4, 4);
+        Check.due("cost", works.cost(0), 594);
     }
 
     private static void likeCostsTakeLeastWays() {
