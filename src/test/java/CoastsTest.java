@@ -5,6 +5,7 @@ public final class CoastsTest {
         coastsAreThirtyAtMost();
         wrongPlaces();
         stepWithinOneGore();
+        stepOfOneDegree();
         stepOverTheEnd();
         stepToEdgeAndOn();
         stepWestFromEdge();
@@ -74,6 +75,15 @@ public final class CoastsTest {
         duePiece(works, 1, 1, 0, 25, 600, -43, 600);
         Check.due("count", works.count(2), 2);
         Check.due("beside", works.pieces(0), 0);
+    }
+
+    private static void stepOfOneDegree() {
+        GlobeWorks works = new GlobeWorks(24);
+        works.coast(359, 80);
+        Check.due("east", works.to(0, 0, -90), 1);
+        duePiece(works, 23, 0, 0, 13, 4800, 15, -5400);
+        Check.due("west", works.to(0, 359, 90), 1);
+        duePiece(works, 23, 1, 0, 15, -5400, 13, 5400);
     }
 
     private static void stepOverTheEnd() {
