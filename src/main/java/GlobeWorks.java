@@ -57,7 +57,7 @@ public final class GlobeWorks {
 
     public GlobeWorks(int gores) {
         int number = goreNumber(gores);
-        this.width = FULL_TURN / number;
+        this.width = wholes(FULL_TURN, number);
         this.gores = new Gore[number];
         for (int k = 0; k < number; k++) {
             this.gores[k] = new Gore();
@@ -160,7 +160,7 @@ public final class GlobeWorks {
                 || price < 1 || price > MOST_PRICE || names.size() >= MOST_NAMES) {
             return NONE;
         }
-        int number = longitude / width;
+        int number = wholes(longitude, width);
         Gore gore = goreOf(number);
         if (gore == null || gore.names.size() >= MOST_NAMES_IN_GORE) {
             return NONE;
@@ -293,8 +293,16 @@ public final class GlobeWorks {
         return (what == 0 || what == 1) && v >= -MOST_ON_PAPER && v <= MOST_ON_PAPER;
     }
 
+    private static int wholes(int p, int q) {
+        return q > 0 ? Math.floorDiv(p, q) : 0;
+    }
+
+    private static int rest(int p, int q) {
+        return q > 0 ? Math.floorMod(p, q) : 0;
+    }
+
     private static int roundBy(int p, int q) {
-        return q > 0 ? Math.floorDiv(2 * p + q, 2 * q) : 0;
+        return wholes(2 * p + q, 2 * q);
     }
 
     private static int cosOf(int degrees) {
@@ -353,12 +361,12 @@ public final class GlobeWorks {
     // An EDGE has SIDE -w in the GORE that begins there and w in the one that ends there,
     // so what a LONGITUDE is more than the GORE's begin is taken round the whole turn.
     private int sideOf(int longitude, int gore) {
-        return 2 * Math.floorMod(longitude - gore * width, FULL_TURN) - width;
+        return 2 * rest(longitude - gore * width, FULL_TURN) - width;
     }
 
     // How far the begin of a STEP is from the EDGE behind it, in the way that it goes.
     private int goneFromEdge(Step step) {
-        return Math.floorMod(step.direction * step.longitude, width);
+        return rest(step.direction * step.longitude, width);
     }
 
     private int piecesOf(Step step) {
@@ -366,14 +374,14 @@ public final class GlobeWorks {
         if (step.length == 0) {
             return behind == 0 ? 2 : 1;
         }
-        return (behind + step.length + width - 1) / width;
+        return wholes(behind + step.length + width - 1, width);
     }
 
     private void cutUpright(int coast, Step step) {
-        int gore = step.longitude / width;
+        int gore = wholes(step.longitude, width);
         layUpright(coast, step, gore);
         if (goneFromEdge(step) == 0) {
-            layUpright(coast, step, Math.floorMod(gore - 1, gores.length));
+            layUpright(coast, step, rest(gore - 1, gores.length));
         }
     }
 
@@ -384,12 +392,12 @@ public final class GlobeWorks {
 
     private void cutSlanting(int coast, Step step, int coming) {
         int behind = goneFromEdge(step);
-        int first = Math.floorDiv(step.longitude - step.direction * behind, width);
+        int first = wholes(step.longitude - step.direction * behind, width);
         if (step.direction < 0) {
             first--;
         }
         for (int k = 0; k < coming; k++) {
-            int gore = Math.floorMod(first + step.direction * k, gores.length);
+            int gore = rest(first + step.direction * k, gores.length);
             int from = Math.max(0, k * width - behind);
             int till = Math.min(step.length, (k + 1) * width - behind);
             lay(gore, new Piece(coast,
@@ -458,7 +466,7 @@ public final class GlobeWorks {
 
     private static boolean isClear(Name name, int way, Gore gore, Search search, int depth) {
         for (int k = 0; k < depth && k < gore.names.size(); k++) {
-            if (name.covers(way, gore.names.get(k), search.trial[k])) {
+            if (name.covers(way, gore.names.get(k), search.wayOf(k))) {
                 return false;
             }
         }
@@ -510,7 +518,7 @@ public final class GlobeWorks {
             longitude = from.longitude;
             height = from.latitude * MINUTES;
             rise = (toLatitude - from.latitude) * MINUTES;
-            int turn = Math.floorMod(toLongitude - from.longitude, FULL_TURN);
+            int turn = rest(toLongitude - from.longitude, FULL_TURN);
             direction = turn <= HALF_TURN ? 1 : -1;
             length = Math.min(turn, FULL_TURN - turn);
         }
@@ -596,6 +604,10 @@ public final class GlobeWorks {
         final int[] trial = new int[MOST_NAMES_IN_GORE];
         final int[] best = new int[MOST_NAMES_IN_GORE];
         int leastCost;
+
+        int wayOf(int k) {
+            return k >= 0 && k < trial.length ? trial[k] : LEFT_OUT;
+        }
 
         void keep(int cost) {
             System.arraycopy(trial, 0, best, 0, best.length);
