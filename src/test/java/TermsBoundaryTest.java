@@ -32,6 +32,7 @@ public final class TermsBoundaryTest {
         lettersAndPrice();
         goreThatBeginsThere();
         cornersOfTheWays();
+        wideAndHigh();
         leavingOut();
         cornersBelowThePole();
         cornersOnTheEdge();
@@ -487,6 +488,25 @@ public final class TermsBoundaryTest {
         dueMay(works, 5, "10111");
     }
 
+    private static void wideAndHigh() {
+        Check.sentence("4: it is 40 units wide for each LETTER, 80 high");
+        GlobeWorks works = new GlobeWorks(6);
+        // sides 58 and -58 are at 1625 and -1625, where the edge is at 1681; 80 nearer to the
+        // pole it is at 1665, which one letter reaches; a unit nearer still it is at 1663
+        Check.due("x", works.across(58, 1260), 1625);
+        Check.due("edge", works.across(60, 1340), 1665);
+        Check.due("edge", works.across(60, 1341), 1663);
+        int[][] places = {{59, 21}, {59, -21}, {1, 21}, {1, -21}};
+        for (int k = 0; k < places.length; k++) {
+            works.name(places[k][0], places[k][1], 1, 1);
+            dueMay(works, k, "11111");
+        }
+        works.name(59, 21, 2, 1);
+        dueMay(works, 4, "01011");
+        works.name(1, -21, 2, 1);
+        dueMay(works, 5, "10101");
+    }
+
     private static void leavingOut() {
         Check.sentence("4: way 4 is leaving it out, for its PRICE");
         GlobeWorks works = new GlobeWorks(6);
@@ -495,6 +515,11 @@ public final class TermsBoundaryTest {
         dueSet(works, 99, 4);
         works.name(0, -90, 20, 1);
         dueSet(works, 100, 4, 4);
+        GlobeWorks dearest = new GlobeWorks(6);
+        for (int k = 0; k < 6; k++) {
+            dearest.name(30, 90, 20, 99);
+        }
+        dueSet(dearest, 594, 4, 4, 4, 4, 4, 4);
     }
 
     private static void cornersBelowThePole() {
