@@ -593,7 +593,7 @@ public final class TermsBoundaryTest {
 
     private static void touchingAbove() {
         Check.sentence("4: Two NAMES have no inner point in common (one above the other)");
-        // three in one place: 0 .. 80 left and right, and below, where they touch at height 0
+        // four in one place: left and right of it above, and below, where they touch at height 0
         GlobeWorks works = new GlobeWorks(6);
         works.name(30, 0, 3, 9);
         works.name(30, 0, 3, 9);
